@@ -1178,6 +1178,7 @@ public final class KnockerFaces {
             law.put(Law.ANSWER, 0);
         }
 
+        /** Takes on all but the names: those are looked up in the draft alone, while a text is read. */
         void become(Town other) {
             doors = other.doors;
             callers = other.callers;
@@ -1185,8 +1186,6 @@ public final class KnockerFaces {
             wind = other.wind;
             near = other.near;
             seed = other.seed;
-            System.arraycopy(other.doorNames, 0, doorNames, 0, MOST_DOORS);
-            System.arraycopy(other.callerNames, 0, callerNames, 0, MOST_CALLERS);
             System.arraycopy(other.first, 0, first, 0, PARTS * MOST_DOORS);
             System.arraycopy(other.looks, 0, looks, 0, PARTS * MOST_CALLERS);
             System.arraycopy(other.roundCaller, 0, roundCaller, 0, MOST_ROUNDS);

@@ -132,6 +132,10 @@ public final class AheadBoundsTest {
         // one behind the other: each counts for the next one; 0 and 1 and 2 and 3
         KnockerFaces counted = of("door a 0 0 0 0; caller x 6 0 0 0; gives = lifts; near 0;");
         due("each counts", counted.lifts(0, 0, NONE), 4);
+        KnockerFaces other = of("door a 0 0 0 0; caller x 6 0 0 0; caller y 0 9 0 0; gives = lifts; near 0;");
+        due("each on its way alone counts", other.lifts(0, 0, NONE), 4);
+        other.lift(0, 0);
+        due("those that were count, too", other.lifts(0, 0, NONE), 3);
         // KNOWN, not near alone: x is nearer, or as near and ahead
         KnockerFaces nearer = of("door a 0 0 0 0; caller x 10 0 0 0; caller y 10 0 0 0; gives = 5; near 40;");
         due("x is ahead", nearer.lifts(0, 1, NONE), NOBODY);
@@ -227,6 +231,10 @@ public final class AheadBoundsTest {
         KnockerFaces there = of("door a 10 10 10 10; caller x 0 10 10 10; caller y 10 10 10 10; gives = 1;");
         due("the one it is like", there.towards(0, 1, 0), 1);
         due("0", there.towards(0, 1, 1), 0);
+        // the higher a CALLER's number, the more their LIFT gives: none but those that there are
+        KnockerFaces last = of("door a 50 50 50 50; caller x 0 0 0 0; caller y 0 0 0 0; gives = which;");
+        due("the last one", last.towards(0, 0, 0), 1);
+        due("how much", last.towards(0, 0, 1), 196);
     }
 
     static void p18Towards() {
@@ -387,6 +395,10 @@ public final class AheadBoundsTest {
         KnockerFaces second = of("door a 0 0 0 0; door b 0 0 0 0; caller x 9 0 0 0; caller y 3 0 0 0; caller z 3 0 0 0; caller w 3 0 0 0;");
         due("a: y", second.paired(0), 1);
         due("b: the next one", second.paired(1), 2);
+        KnockerFaces later = of("door a 50 0 0 0; door b 40 0 0 0; door c 0 0 0 0; caller x 0 0 0 0;");
+        due("a: nobody", later.paired(0), NOBODY);
+        due("b: nobody", later.paired(1), NOBODY);
+        due("c: x, though others were looked at ahead of it", later.paired(2), 0);
     }
 
     static void p21Paired() {
@@ -406,6 +418,13 @@ public final class AheadBoundsTest {
         KnockerFaces callers = of("caller a 1 1 1 1;");
         due("no doors: no pairs", callers.paired(NONE), 0);
         due("no doors", callers.paired(0), NONE);
+        // nothing is left of what was found in the text ahead
+        KnockerFaces again = of("door a 9 9 9 9; door b 50 50 50 50; caller x 0 0 0 0;");
+        due("a and x", again.paired(NONE), 36);
+        due("read", Bounds.read(again, "door a 1 1 1 1;"), 0);
+        due("no pairs", again.paired(NONE), 0);
+        due("read", again.read(), 0);
+        due("no pairs", again.paired(NONE), 0);
     }
 
     // ---- CHANGES, RUBS, WHEN, ALONE, promises 22 to 25
@@ -702,7 +721,7 @@ public final class AheadBoundsTest {
         sentence("III", "IN n DAYS (0 .. 60; with WIND): a PART of a DOOR; by whom it is KNOWN; what the house has.");
         for (int n : new int[] {0, 1, 2, 59, 60}) {
             KnockerFaces faces = of(STREET + "wind 60;");
-            faces.days(3);
+            faces.days(4);
             faces.lift(1, 1);
             int[] then = new int[12];
             for (int i = 0; i < 12; i++) {
@@ -714,6 +733,11 @@ public final class AheadBoundsTest {
                 due("in " + n + " days, " + i, then[i], faces.door(i / 6, what));
             }
         }
+        // lifted by hand today: idle 0 tomorrow
+        KnockerFaces today = of("door a 0 0 0 0; caller x 99 0 0 0; round x a 30 7; gives = idle;");
+        today.days(5);
+        today.lift(0, 0);
+        due("5 and 1", today.then(0, 3, 0), 5 + 1);
         int lost = 0;
         KnockerFaces windy = of("door a 99 99 99 99; wind 100;");
         for (int part = 0; part < 4; part++) {
@@ -761,6 +785,7 @@ public final class AheadBoundsTest {
         faces.keep(2, false);
         due("no lifts: the first", faces.busy(60, 0), 0);
         due("no lifts", faces.busy(60, 1), 0);
+        due("ten rounds", of("door a 1 1 1 1; caller x 1 1 1 1;" + "round x a 1 0;".repeat(10)).busy(60, 1), 600);
     }
 
     static void p34Busy() {

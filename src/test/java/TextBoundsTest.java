@@ -422,11 +422,19 @@ public final class TextBoundsTest {
         fault("wind 9999;", 5, 5);
         due("the last one", of("wind 0; wind 100;").count(12), 1);
         due("the last one", of("wind 100; wind 0;").count(12), 0);
-        for (int day = 0; day < 200; day++) {
-            KnockerFaces faces = of("");
-            Bounds.days(faces, day);
-            due("no wind if not told, day " + day, faces.count(12), 0);
+        // of seed 0, LOT 100 is 0 on these days, which the least wind is enough for
+        for (int day : new int[] {254, 352, 512}) {
+            due("LOT 100 of day " + day, Bounds.lot(100, 0, 16 * day), 0);
+            due("wind 1 on day " + day, windOn("wind 1;", day), 1);
+            due("wind 0 on day " + day, windOn("wind 0;", day), 0);
+            due("not told, on day " + day, windOn("", day), 0);
         }
+    }
+
+    private static int windOn(String text, int day) {
+        KnockerFaces faces = of(text);
+        Bounds.days(faces, day);
+        return faces.count(12);
     }
 
     static void nearHowMuch() {
@@ -539,6 +547,9 @@ public final class TextBoundsTest {
         fault("gives = if 1 < 2 then (((((((3))))))) else 4;", 2, 28);
         String deep = "1+2*(1+2*(1+2*(1+2*(1+2*(1+2*(1+2*0))))))";
         due("six within one another", of("door a 0 0 0 0; caller b 99 0 0 0; pays = " + deep + " - 100;").tells(0, 0, 4), 27);
+        String arm = "if " + deep + " < " + deep + " then 1 else ";
+        due("behind four ifs, too", of("door a 0 0 0 0; caller b 99 0 0 0; pays = " + arm.repeat(3) + deep + " - 100;").tells(0, 0, 4), 27);
+        due("behind four ifs, too", of("door a 0 0 0 0; caller b 99 0 0 0; pays = " + "if 1<1 then 1 else ".repeat(4) + deep + " - 100;").tells(0, 0, 4), 27);
     }
 
     static void slipsIfThereIsNone() {
@@ -634,7 +645,7 @@ public final class TextBoundsTest {
     static void aTextInPlaceOfTheOneAhead() {
         sentence("I", "else it is in place of the one ahead: day 0, FIRST faces, all ROUNDS kept;");
         KnockerFaces faces = busy();
-        due("read", Bounds.read(faces, TWO + "round z a 1 0; round z a 2 0;"), 0);
+        due("read", Bounds.read(faces, TWO + "round z a 1 3; round z a 2 3;"), 0);
         due("day", faces.count(3), 0);
         Bounds.face(faces, 0, 1, 1, 1, 1);
         due("off the first face", faces.door(0, 9), 0);
@@ -643,9 +654,24 @@ public final class TextBoundsTest {
             due("door(0, " + what + ")", faces.door(0, what), 0);
         }
         due("caller(0, 4)", faces.caller(0, 4), 0);
-        due("read", Bounds.read(faces, "door a 1 1 1 1; caller z 9 9 9 9;"), 0);
+        faces = busy();
+        due("read", Bounds.read(faces, "door a 1 1 1 1; door b 1 1 1 1; caller z 42 1 1 1;"), 0);
         due("gives 1 again", faces.tells(0, 0, 0), 1);
+        due("pays 1 again", faces.tells(0, 0, 4), 1);
+        due("near 40 again", faces.door(0, 8), -2);
         due("no wind again", faces.count(12), 0);
+        faces.lift(1, 0);
+        faces.days(1);
+        due("wears 0 again", faces.door(1, 0), 2);
+        due("near 40 again", faces.door(1, 8), 0);
+        due("lifted today in the text ahead only", faces.door(0, 5), 1);
+        int lot = Bounds.lot(100, 0, 0);
+        due("read", Bounds.read(faces, "seed 3;"), 0);
+        due("read", Bounds.read(faces, "wind " + lot + ";"), 0);
+        due("seed 0 again", faces.count(12), 0);
+        due("read", Bounds.read(faces, "seed 3; wind 100;"), 0);
+        due("read", Bounds.read(faces, "wind " + (lot + 1) + ";"), 0);
+        due("seed 0 again", faces.count(12), 1);
         faces = busy();
         due("read of nothing", faces.read(), 0);
         for (int what = 0; what <= 16; what++) {
@@ -671,11 +697,13 @@ public final class TextBoundsTest {
 
     /** An object with which much was done. */
     private static KnockerFaces busy() {
-        KnockerFaces faces = of("door a 10 20 30 40; door b 1 1 1 1; caller c 50 50 50 50; round c a 2 1; wind 100; gives = 9;");
+        KnockerFaces faces = of("door a 10 20 30 40; door b 1 1 1 1; caller c 50 50 50 50; round c a 2 1;"
+                + "wind 100; gives = 9; wears = 2; pays = 3; near 396; seed 5;");
         faces.lift(0, 0);
         faces.polish(0);
         faces.file(1, 0);
         faces.days(9);
+        faces.lift(0, 0);
         faces.keep(0, false);
         faces.tell(0, 0, 1);
         for (int slot = 0; slot < 3; slot++) {

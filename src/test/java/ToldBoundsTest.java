@@ -76,6 +76,18 @@ public final class ToldBoundsTest {
             due("which, by " + k, faces.who(k, 1), which[k]);
             due("how many, by " + k, faces.who(k, 0), Integer.bitCount(which[k]));
         }
+        KnockerFaces doors = of("door a 10 10 10 10; door b 20 20 20 20; caller x 15 15 15 15; caller y 25 25 25 9;");
+        doors.tell(1, 2, 1);
+        doors.tell(0, 3, -1);
+        due("b's part 2", doors.who(1, 1), 2);
+        due("a's part 3", doors.who(2, 1), 2);
+        doors.forget();
+        doors.tell(0, 2, 1);
+        doors.tell(1, 3, -1);
+        doors.tell(1, 0, -1);
+        due("a's part 2", doors.who(1, 1), 3);
+        due("b's part 3", doors.who(2, 1), 3);
+        due("b's part 0", doors.who(3, 1), 1);
         due("five", of("door a 1 1 1 1; caller v 1 1 1 1; caller w 1 1 1 1; caller x 1 1 1 1; caller y 1 1 1 1; caller z 1 1 1 1;").who(0, 1), 31);
     }
 
@@ -97,6 +109,8 @@ public final class ToldBoundsTest {
         due("less, as it is, more", ways.ask(0), 1);
         KnockerFaces last = of("door a 1 1 1 1; door b 1 1 1 1; door c 1 1 1 1; door d 1 1 1 1; door e 1 1 1 1; door f 5 5 5 5; caller x 9 9 9 9; caller y 9 9 9 3;");
         due("the last one of all", last.ask(0), 53);
+        KnockerFaces alike = of("door a 1 1 1 1; caller v 9 9 9 9; caller w 9 9 9 9; caller x 9 9 9 9; caller y 9 9 9 9; caller z 9 9 9 9;");
+        due("five that can't be told apart", alike.ask(0), 0);
     }
 
     static void p36Tell() {
