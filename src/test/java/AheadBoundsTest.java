@@ -173,6 +173,11 @@ public final class AheadBoundsTest {
         for (int i = 0; i < 4; i++) {
             due("lifts(0, 2, " + i + ")", faces.lifts(0, 2, i), 2);
         }
+        KnockerFaces one = of("door a 0 0 0 0; caller x 4 0 0 0; near 0;");
+        due("by the only one there is", one.lifts(0, 0, NONE), 4);
+        for (int i = 0; i < 4; i++) {
+            due("lifts(0, 0, " + i + ")", one.lifts(0, 0, i), 0);
+        }
     }
 
     static void p17NotByFour() {
